@@ -280,6 +280,10 @@ public final class PromiseTest {
         is("9: previous", x.setFilter(1, 5), -99);
         is("9: the filter itself is taken", x.countOf(1, 1), 3);
         is("9: other views", x.countOf(0, 1), 4);
+        x.change(1, 5);
+        is("9: it is taken from a delta too", x.countOf(1, 1), 4);
+        x.change(1, 4);
+        is("9: one less is not", x.countOf(1, 1), 3);
         is("9: one above", x.setFilter(1, 6), 5);
         is("9: fewer", x.countOf(1, 1), 1);
         is("9: refreshes", x.refreshes(), 2);
@@ -289,7 +293,7 @@ public final class PromiseTest {
         is("9: it naps on", x.isNapping(1), true);
         is("9: none waits", x.waiting(1), 0);
         is("9: least", x.setFilter(1, -99), 99);
-        is("9: all", x.sumOf(1, 1), 147);
+        is("9: all", x.sumOf(1, 1), 158);
         is("9: saved", x.savedStates(), 5);
         fails("9: view -1", x, BOUNDS, () -> x.setFilter(-1, 100));
         fails("9: view 3", x, BOUNDS, () -> x.setFilter(3, 0));
@@ -334,6 +338,16 @@ public final class PromiseTest {
         is("10: 31 may not", y.waiting(0), 0);
         is("10: held", y.sumOf(0, 3), 8);
         is("10: by itself", y.wakingsByThemselves(), 1);
+        NappingViews z = fourRows();
+        z.setBehind(1, 1);
+        z.nap(1);
+        z.delete(0);
+        is("10: one may wait", z.isNapping(1), true);
+        z.delete(1);
+        is("10: a delete wakes it too", z.isNapping(1), false);
+        z.nap(1);
+        z.regroup(2, 0);
+        is("10: so does a regroup", z.isNapping(1), false);
     }
 
     private static void setLongest() {
@@ -449,12 +463,19 @@ public final class PromiseTest {
         errorAt("u3=0", 4);
         errorAt("u15=-1", 6);
         errorAt("u3a", 2);
+        errorAt("u16=1", 2);
+        errorAt("u17=1", 2);
         errorAt("u3==", 3);
         errorAt("g15b", 4);
         errorAt("g15b0", 4);
         errorAt("g3=", 2);
+        errorAt("g16b", 2);
+        errorAt("g17b", 2);
+        errorAt("g3e", 2);
         errorAt("x15", 3);
         errorAt("x16", 2);
+        errorAt("x17", 2);
+        errorAt("i17a1", 2);
         errorAt("x1;x0", 5);
         errorAt("x1;;", 3);
         errorAt("x1,x0", 2);
@@ -486,7 +507,8 @@ public final class PromiseTest {
     }
 
     private static void completeTexts() {
-        for (String text : new String[] {"", ";", "i", "i0", "i0a", "i0a-", "u", "u0", "u0=", "u0=-",
+        for (String text : new String[] {
+            "", ";", "i", "i0", "i0a", "i0a-", "u", "u0", "u0=", "u0=-",
             "g", "g0", "x", "t", "z", "w", "r", "x0;", ";x0", "x0;;x0", "x00", "x16", "t0",
             "t31", "z3", "i0a-0", "i0a100", "i0e1", "X0", "x0;i1"}) {
             complete(text, false);
@@ -1142,11 +1164,56 @@ public final class PromiseTest {
         is("54: the buffer", x.digest() == digestOfNew(), false);
         x.clearBuffer();
         is("54: the buffer is clear", x.digest(), digestOfNew());
+        is("54: with a row, a nap and a text, by hand", oneRowAndNap().digest(), digestOfOneRow());
         NappingViews y = typed("r0;x0");
         y.replay();
         y.keep();
         y.restore();
         is("54: as the third run of NappingViewsRuns tells", y.digest(), 4187759954485229573L);
+    }
+
+    // One row is left; two deltas of five wait for the view 0; the buffer has one character.
+    private static NappingViews oneRowAndNap() {
+        NappingViews x = new NappingViews();
+        x.insert(0, 3, -8);
+        x.nap(0);
+        x.insert(1, 2, 60);
+        x.delete(0);
+        x.wake(0);
+        x.nap(0);
+        x.change(1, 61);
+        type(x, "i");
+        return x;
+    }
+
+    private static long digestOfOneRow() {
+        // Rows, deltas, tick, wakings, by themselves, refreshes, log length, saved states.
+        long hash = hashOf(4373, 1, 5, 0, 1, 0, 0, 2, 5);
+        hash = hashOf(hash, 1, 0, 2, 61);
+        for (int place = 2; place < 16; place++) {
+            hash = hashOf(hash, 1);
+        }
+        hash = hashOf(hash, 1, 0, -99, 2, 2, 2, 4, 0, 8);
+        hash = hashOf(hash, 0, 0, 0, 0, 0, 0, 0);
+        hash = hashOf(hash, 0, 0, 0, 0, 0, 0, 0);
+        hash = hashOf(hash, 1, 60, 1, 0, 1, 61, 0, 60, 60, 60, 61);
+        hash = hashOf(hash, 0, 0, 0, 0, 0, 0, 0);
+        for (int view = 1; view < 3; view++) {
+            hash = hashOf(hash, 0, 0, -99, 0, 0, 0, 0, 0, 0);
+            hash = hashOf(hash, 0, 0, 0, 0, 0, 0, 0);
+            hash = hashOf(hash, 0, 0, 0, 0, 0, 0, 0);
+            hash = hashOf(hash, 1, 61, 1, 0, 1, 61, 0, 61, 61, 61, 61);
+            hash = hashOf(hash, 0, 0, 0, 0, 0, 0, 0);
+        }
+        return hashOf(hash, 0, Double.doubleToLongBits(2.0 / 15.0), 1, 'i');
+    }
+
+    private static long hashOf(long before, long... values) {
+        long hash = before;
+        for (long value : values) {
+            hash = 31 * hash + value;
+        }
+        return hash;
     }
 
     private static long digestOfNew() {
