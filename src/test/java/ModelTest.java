@@ -6,16 +6,6 @@ public final class ModelTest {
     private static final int RUNS = 4000;
     private static final int CALLS_OF_LAST_LOOK = 310;
 
-    private static final String[] LOOKS = {
-        "hasStopped", "stoppedPart", "savedStates", "rows", "deltas", "tick", "wakings",
-        "wakingsByThemselves", "refreshes", "logLength", "behindShare", "firstError", "digest"};
-    private static final String[] PLACE_LOOKS = {"isFree", "groupAt", "amountAt"};
-    private static final String[] VIEW_LOOKS = {
-        "isNapping", "napOf", "filterOf", "waiting", "waitingByNumbers", "matters",
-        "unlikeGroups", "unlikeIfWoken", "wakesIn"};
-    private static final String[] GROUP_LOOKS = {
-        "countOf", "sumOf", "leastOf", "greatestOf", "medianOf", "rankOf", "unlikeOf",
-        "countInTable", "sumInTable", "medianInTable", "rankInTable"};
     private static final int[] EDGES = {
         Integer.MIN_VALUE, -100, -99, -1, 0, 1, 2, 3, 4, 15, 16, 30, 31, 32, 33, 60, 99, 100, 126,
         127, 65536, Integer.MAX_VALUE};
@@ -23,7 +13,7 @@ public final class ModelTest {
     private final Check check;
     private final Numbers numbers;
     private final int run;
-    private final RealViews real = new RealViews();
+    private final RealViews real = new RealViews(new NappingViews());
     private final ModelViews model = new ModelViews();
     private final List<String> told = new ArrayList<>();
     // A run keeps to small amounts now and then, so that amounts come twice.
@@ -117,9 +107,9 @@ public final class ModelTest {
         String[] names = {"insert", "change", "regroup", "delete", "nap", "wake", "refresh",
             "setFilter", "setBehind", "setLongest", "pass", "append"};
         same(names[numbers.below(names.length)], edge(), edge(), edge());
-        same(GROUP_LOOKS[numbers.below(GROUP_LOOKS.length)], edge(), edge(), edge());
-        same(VIEW_LOOKS[numbers.below(VIEW_LOOKS.length)], edge(), 0, 0);
-        same(PLACE_LOOKS[numbers.below(PLACE_LOOKS.length)], edge(), 0, 0);
+        same(Looks.OF_GROUPS[numbers.below(Looks.OF_GROUPS.length)], edge(), edge(), edge());
+        same(Looks.OF_VIEWS[numbers.below(Looks.OF_VIEWS.length)], edge(), 0, 0);
+        same(Looks.OF_PLACES[numbers.below(Looks.OF_PLACES.length)], edge(), 0, 0);
     }
 
     private int edge() {
@@ -164,19 +154,19 @@ public final class ModelTest {
     }
 
     private void lookAtAll() {
-        for (String name : LOOKS) {
+        for (String name : Looks.OF_ALL) {
             same(name, 0, 0, 0);
         }
-        for (String name : PLACE_LOOKS) {
+        for (String name : Looks.OF_PLACES) {
             for (int place = 0; place < 16; place++) {
                 same(name, place, 0, 0);
             }
         }
         for (int view = 0; view < 3; view++) {
-            for (String name : VIEW_LOOKS) {
+            for (String name : Looks.OF_VIEWS) {
                 same(name, view, 0, 0);
             }
-            for (String name : GROUP_LOOKS) {
+            for (String name : Looks.OF_GROUPS) {
                 for (int group = 0; group < 4; group++) {
                     same(name, view, group, amount());
                 }

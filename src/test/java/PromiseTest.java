@@ -70,40 +70,21 @@ public final class PromiseTest {
 
     private static void type(NappingViews x, String text) {
         x.clearBuffer();
-        for (int i = 0; i < text.length(); i++) {
-            x.append(text.charAt(i));
-        }
+        Scenes.type(x, text);
     }
 
     private static NappingViews typed(String text) {
-        NappingViews x = new NappingViews();
-        type(x, text);
-        return x;
+        return Scenes.typed(text);
     }
 
     // Rows 0 to 3 in the group 1, with the amounts 5, -7, 5 and 99.
     private static NappingViews fourRows() {
-        NappingViews x = new NappingViews();
-        x.insert(0, 1, 5);
-        x.insert(1, 1, -7);
-        x.insert(2, 1, 5);
-        x.insert(3, 1, 99);
-        return x;
+        return Scenes.rowsIn(1, 5, -7, 5, 99);
     }
 
     // A view 0 that naps, and for which the deltas wait.
     private static NappingViews behindBy(int deltas) {
-        NappingViews x = new NappingViews();
-        x.setBehind(0, 30);
-        x.nap(0);
-        for (int i = 0; i < deltas; i++) {
-            if (i % 2 == 0) {
-                x.insert(0, 0, 1);
-            } else {
-                x.delete(0);
-            }
-        }
-        return x;
+        return Scenes.behindBy(0, deltas);
     }
 
     // ---- promise 1

@@ -3,8 +3,12 @@ final class RealViews {
     // What later calls of an object answer is free.
     static final int MOST_CALLS = 512;
 
-    private final NappingViews views = new NappingViews();
+    private final NappingViews views;
     private int calls;
+
+    RealViews(NappingViews views) {
+        this.views = views;
+    }
 
     int callsLeft() {
         return MOST_CALLS - calls;
