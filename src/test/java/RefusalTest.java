@@ -1,7 +1,7 @@
 /**
  * "A call that throws an exception changes nothing. If several exceptions apply, the one that is
- * named first in the throws clause is thrown." Each call with each mixture of arguments at the edges
- * and behind them, on objects that are empty, full, and in the midst of things.
+ * named first in the throws clause is thrown." Each call with each mixture of arguments at the
+ * edges and behind them, on objects that are empty, full, and in the midst of things.
  */
 public final class RefusalTest {
     private static final Class<?> BOUNDS = IndexOutOfBoundsException.class;

@@ -166,7 +166,8 @@ public final class TellingEdgesTest {
         is("42: all above 0", z.greatestOf(0, 0), 60);
     }
 
-    // ---- "the median (of n amounts by size, the one at the place (n - 1) / 2, rounded down, from 0)"
+    // ---- "the median (of n amounts by size, the one at the place (n - 1) / 2, rounded down, from
+    // 0)"
 
     private static void medianOfEachNumber() {
         medians(new int[] {1, 2, 3, 4, 5, 6, 7, 8, 9, 10, 11, 12, 13, 14, 15, 16},

@@ -263,8 +263,8 @@ public final class TextEdgesTest {
         CHECK.fails("16: clear by now", x, ARGUMENT, x::replay);
     }
 
-    // ---- "a place, 0 to 15", "a group as a letter from "a" to "d"", "a number from 0 to 99, or "-"
-    // and a number from 1 to 99", "ticks, 1 to 30", "a view, 0 to 2"
+    // ---- "a place, 0 to 15", "a group as a letter from "a" to "d"", "a number from 0 to 99, or
+    // "-" and a number from 1 to 99", "ticks, 1 to 30", "a view, 0 to 2"
 
     private static void placesInTexts() {
         for (int place = 0; place <= 170; place++) {
@@ -353,7 +353,8 @@ public final class TextEdgesTest {
     // "Numbers have no leading zeros"
     private static void numbersHaveNoLeadingZeros() {
         for (int number = 0; number <= 99; number++) {
-            for (String begin : new String[] {"x", "t", "z", "w", "r", "i0a", "i0a-", "u0=", "u0=-"}) {
+            for (String begin : new String[] {
+                "x", "t", "z", "w", "r", "i0a", "i0a-", "u0=", "u0=-"}) {
                 readWhole(begin + "0" + number, false);
                 readWhole(begin + "00" + number, false);
             }

@@ -296,8 +296,8 @@ public final class ViewEdgesTest {
         }
     }
 
-    // ---- "When more deltas wait than the first bound tells, behind a call that writes deltas [..],
-    // it wakes by itself."
+    // ---- "When more deltas wait than the first bound tells, behind a call that writes deltas
+    // [..], it wakes by itself."
 
     private static void eachBoundOfDeltas() {
         for (int bound = 1; bound <= 30; bound++) {
