@@ -32,6 +32,7 @@ public final class TellingEdgesTest {
         wokenItIsAlike();
         digestTellsItsList();
         digestTellsEachChange();
+        digestTellsTheBitsOfEachShare();
         CHECK.end();
     }
 
@@ -444,5 +445,37 @@ public final class TellingEdgesTest {
             deed.on(x);
             is("54: another hash, " + told.size(), told.add(x.digest()), true);
         }
+    }
+
+    // "the bits of behindShare (as Double.doubleToLongBits)": of 0 to 30 deltas that wait, and of
+    // as many for three views, among few and many that are written.
+    private static void digestTellsTheBitsOfEachShare() {
+        for (int before = 0; before <= 40; before++) {
+            for (int waiting = 0; waiting <= 30; waiting++) {
+                NappingViews x = new NappingViews();
+                Scenes.writeDeltas(x, before);
+                x.setBehind(1, 30);
+                x.nap(1);
+                Scenes.writeDeltas(x, waiting);
+                shareIsTold(x, waiting, before + waiting);
+            }
+        }
+        for (int changes = 0; changes <= 250; changes += 10) {
+            NappingViews x = Scenes.rowsIn(0, 1);
+            for (int i = 0; i < changes; i++) {
+                x.change(0, i % 2);
+            }
+            for (int view = 0; view < 3; view++) {
+                x.nap(view);
+            }
+            x.change(0, 5);
+            shareIsTold(x, 6, 3 + 2 * changes);
+        }
+    }
+
+    private static void shareIsTold(NappingViews x, int waiting, int written) {
+        double due = written == 0 ? 0.0 : (double) waiting / (3.0 * written);
+        is("53: " + waiting + " of three times " + written, x.behindShare(), due);
+        is("54: " + waiting + " of three times " + written, x.digest(), DigestByLooks.of(x, ""));
     }
 }
