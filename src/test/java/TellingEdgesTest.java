@@ -426,6 +426,13 @@ public final class TellingEdgesTest {
         listIsTold("no stop", Scenes.played("t3;i0a-5;i1a0;z0;x0;r2"), "");
         listIsTold("a stop at 0", Scenes.played("w0"), "");
         listIsTold("a third waits", Scenes.behindBy(0, 1), "");
+        // "rankOf of 0", "rankInTable of 0": other ranks are told by the amounts beside 0.
+        listIsTold("amounts about 0", Scenes.rowsIn(2, -2, -1, 0, 1, 2), "");
+        NappingViews x = Scenes.rowsIn(1, -1, 0, 0, 1);
+        x.nap(1);
+        x.change(3, -1);
+        x.delete(0);
+        listIsTold("amounts about 0, behind", x, "");
     }
 
     private static void listIsTold(String what, NappingViews x, String buffer) {
